@@ -181,14 +181,14 @@ public final class StepColumns {
         if (n < 0 || n > MAX_FIT) {
             return OUTSIDE;
         }
-        if (columnsWithin(MAX_HIGH) > n) {
+        if (scale.fewestColumns(MAX_HIGH) > n) {
             return NONE;
         }
         // A laying within some height is one within each greater height too, so the
         // heights that serve are all those from the least one on: it is found by halving.
         int high = MAX_HIGH;
         for (int step = 128; step > 0; step /= 2) {
-            if (high - step >= MIN_HIGH && columnsWithin(high - step) <= n) {
+            if (high - step >= MIN_HIGH && scale.fewestColumns(high - step) <= n) {
                 high -= step;
             }
         }
@@ -258,7 +258,7 @@ public final class StepColumns {
     /** Lays the book as things are, unless that has been done; tells if there is a laying. */
     private boolean layBest() {
         if (!laid) {
-            laying.exists = scale.weigh(book.high, NOBODY) < NO_LAYING;
+            laying.exists = scale.weigh(NOBODY) < NO_LAYING;
             if (laying.exists) {
                 laying.follow(scale);
             }
@@ -271,13 +271,8 @@ public final class StepColumns {
         if (book.most[item] == MAX_ROOM) {
             return 0;
         }
-        int cost = scale.weigh(book.high, item);
+        int cost = scale.weigh(item);
         return laying.out - cost % COLUMN_COST / OUT_COST;
-    }
-
-    /** Without a laying these are more than MAX_FIT. */
-    private int columnsWithin(int high) {
-        return scale.weigh(high, NOBODY) / COLUMN_COST;
     }
 
     /** The items in their order, and the page that they are set on. */
@@ -404,15 +399,32 @@ public final class StepColumns {
         private final int[] onTop = new int[MAX_ITEMS * MAX_LINES];
         private int high = FIRST_HIGH;
         private int widened = NOBODY;
+        private boolean leastRooms = false;
 
         Scale(Book book) {
             this.book = book;
         }
 
-        /** The cost of the best laying within a height, one item's MOST being 30 (or none's). */
-        int weigh(int newHigh, int newWidened) {
-            high = newHigh;
+        /** The cost of the best laying, one item's MOST being 30 (or none's). */
+        int weigh(int newWidened) {
+            high = book.high;
             widened = newWidened;
+            leastRooms = false;
+            return costOfAll();
+        }
+
+        /**
+         * The fewest columns within a height; without a laying they are more than MAX_FIT.
+         * A laying stays one when its rooms become the least, so no other rooms are tried.
+         */
+        int fewestColumns(int newHigh) {
+            high = newHigh;
+            widened = NOBODY;
+            leastRooms = true;
+            return costOfAll() / COLUMN_COST;
+        }
+
+        private int costOfAll() {
             if (book.items == 0) {
                 return 0;
             }
@@ -483,16 +495,24 @@ public final class StepColumns {
 
         /** Of items i and on, where item i stands in the column of the thing before it. */
         private int costWithin(int i, int end) {
+            if (book.kind[i] == TEXT) {
+                return costFrom(i, 0, end);
+            }
             int cost = NO_LAYING;
             int most = mostRoom(i, end);
+            int endWithoutRoom = end + book.size[i];
             for (int room = book.least[i]; room <= most; room++) {
-                cost = Math.min(cost, room + costFrom(i, 0, end + room));
+                cost = Math.min(cost, room + costBehind(i + 1, endWithoutRoom + room));
             }
             return cost;
         }
 
+        /** What MOST and the height of the column leave; below LEAST, if the item does not fit. */
         private int mostRoom(int i, int end) {
             int most = i == widened ? MAX_ROOM : book.most[i];
+            if (leastRooms) {
+                most = book.least[i];
+            }
             return Math.min(most, high - book.tall(i) - end);
         }
 
