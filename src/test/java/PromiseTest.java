@@ -403,6 +403,21 @@ public final class PromiseTest {
         x.set(1, 12);
         due("culprit() of none", x.culprit(), NONE);
 
+        // 12 items, the last but one a culprit of all the lines behind it.
+        x = new StepColumns();
+        for (int i = 0; i < 10; i++) x.add(0, 1, 0, 0);
+        x.add(1, 5, 0, 4);
+        x.add(0, 1, 0, 0);
+        due("culprit() of 12", x.culprit(), 10);
+        due("relief(10)", x.relief(10), 1001);
+        due("relief(12)", x.relief(12), UNKNOWN);
+        x.change(10, 1, 7);
+        x.change(11, 1, 2);
+        x.set(1, 127);
+        due("culprit() of 12, no room for relief", x.culprit(), NONE);
+        due("best(1)", x.best(1), 2);
+        due("relief(10)", x.relief(10), 1000);
+
         // The first of a column has no room: it relieves nothing, and the lines stay out.
         x = new StepColumns();
         x.add(2, 7, 0, 0);
