@@ -539,6 +539,19 @@ public final class PromiseTest {
         x.set(1, 200);
         due("best(0)", x.best(0), 2);
         due("best(2)", x.best(2), 300);
+
+        // A column that is full to the last unit of 200, before the last item that can be.
+        x = new StepColumns();
+        x.set(1, 200);
+        for (int i = 0; i < 10; i++) x.add(2, 12, 0, 0);
+        x.add(2, 80, 0, 0);
+        x.add(2, 1, 0, 30);
+        due("best(0)", x.best(0), 2);
+        due("column(0, 1)", x.column(0, 1), 200);
+        due("place(11, 0, 1)", x.place(11, 0, 1), 0);
+        due("best(4)", x.best(4), 199);
+        due("fit(1)", x.fit(1), NONE);
+        due("fit(2), 8 of 12 high and the rest", x.fit(2), 105);
     }
 
     public static void main(String[] args) {
