@@ -113,6 +113,21 @@ public final class EdgeTest {
         b.best(0).is(12);
     }
 
+    private static void ofColumns() {
+        Caller.sentence("10 column: how many THINGS, the END of the last one, LINES OUT, the ITEMS of the first and the last");
+        // A figure, 3 lines out of step and 2 of the next text; its 2 others, a head, a line out of step.
+        Caller b = Caller.book(10, 57).figure(7, 0, 0).text(3).text(4).head(25, 1, 1).text(1);
+        int[][] due = {{6, 57, 5, 0, 2}, {4, 56, 1, 2, 4}};
+        for (int c = 0; c < 2; c++) {
+            for (int what = 0; what <= 4; what++) b.column(c, what).is(due[c][what]);
+        }
+        for (int what = 0; what <= 4; what++) {
+            b.column(2, what).is(NONE);
+            b.column(-1, what).is(NONE);
+        }
+        b.bestAre(2, 6, 1, 1, 1);
+    }
+
     private static void rooms() {
         Caller.sentence("2 (b) the first THING of all has TOP 0 and ROOM 0, whatever its LEAST is");
         for (int kind = 1; kind <= 2; kind++) {
@@ -228,6 +243,24 @@ public final class EdgeTest {
         b.set(1, 24).is(25);
         b.bestAre(2, 0, 0, 0, 24 - 15 + 24 - 10);
         b.stands(1, 0, 0, 10, 0);
+    }
+
+    private static void noneAnyMore() {
+        Caller.sentence("2 there may be no LAYING at all: none where there was one, one where there was none");
+        Caller b = Caller.book(10, 50).text(3).figure(35, 5, 6);
+        int[] highs = {50, 34, 35, 29, 60, 12};
+        for (int high : highs) {
+            b.set(1, high);
+            boolean none = high < 35;
+            b.best(0).is(none ? NONE : 2);
+            b.place(0, 0, 0).is(none ? NONE : 0);
+            b.place(1, 0, 3).is(none ? NONE : 0);
+            b.column(0, 0).is(none ? NONE : 3);
+            b.column(1, 3).is(none ? NONE : 1);
+            b.meet(0).is(none ? NONE : 0);
+            b.relief(1).is(none ? NONE : 1000);
+            b.culprit().is(NONE);
+        }
     }
 
     // ---- section 2, (d)
@@ -451,6 +484,11 @@ public final class EdgeTest {
         b.move(0, 3);
         b.meet(0).is(0);
         b.meet(1).is(3);
+        // Three full columns: the lines of the third one stand beside none of the first.
+        b = Caller.book(10, 30).text(3).text(1).figure(20, 0, 0).figure(10, 0, 0).text(2);
+        b.bestAre(3, 0, 0, 0, 0);
+        b.meet(0).is(1);
+        b.meet(1).is(0);
         Caller.sentence("11 meet, NONE: no COLUMN of it has any THING");
         b = Caller.book(12, 24);
         for (int i = 0; i < 12; i++) b.text(12);
@@ -482,6 +520,14 @@ public final class EdgeTest {
         b.change(2, 1, 21).is(20);
         b.set(1, 41);
         b.meet(0).is(0);
+        // Tops 11 beside 0 and 11, with a figure 1 high between these.
+        b = Caller.book(10, 21).figure(11, 0, 0).text(1).text(1).figure(1, 0, 0).text(1);
+        b.best(0).is(2);
+        b.meet(0).is(1);
+        b.move(0, 4);
+        b.move(0, 4);
+        b.best(0).is(2);
+        b.meet(0).is(1);
         Caller.sentence("3 LINES that are OUT MEET too; HEADS and FIGURES do not, nor a LINE and a HEAD");
         b = Caller.book(10, 27).figure(7, 0, 0).text(2).head(7, 0, 0).text(2);
         b.bestAre(2, 4);
@@ -556,6 +602,13 @@ public final class EdgeTest {
         b.relief(1).is(NONE);
         b.relief(0).is(OUTSIDE);
         b.relief(7).is(UNKNOWN);
+        b.culprit().is(NONE);
+        Caller.sentence("13 culprit, NONE: there is none of 12 ITEMS by which it is above 0");
+        b = Caller.book(10, 200).head(7, 0, 0);
+        for (int i = 1; i < 12; i++) b.text(1);
+        b.bestAre(1, 11, 0, 0, 200 - 117);
+        b.culprit().is(NONE);
+        b.change(1, 1, 2).is(1);
         b.culprit().is(NONE);
         Caller.sentence("13 culprit, by which there is most RELIEF, the least of such");
         b = Caller.book(10, 200).text(1).figure(9, 0, 0).text(1).figure(9, 0, 0).text(1);
@@ -684,6 +737,20 @@ public final class EdgeTest {
         b.count(3).is(200);
         b.count(4).is(2);
         b.add(0, 1, 0, 0).is(FULL);
+        Caller.sentence("15 image, 16 restore: ITEMS with all that they are");
+        b = Caller.book(7, 90).text(5).figure(80, 0, 30).head(12, 3, 4);
+        b.image(0).is(1);
+        for (int i = 0; i < 3; i++) b.remove(0);
+        b.figure(1, 1, 1).head(2, 2, 2).text(3).text(4);
+        b.restore(0).is(1);
+        int[][] due = {{0, 5, 0, 0}, {2, 80, 0, 30}, {1, 12, 3, 4}};
+        for (int i = 0; i < 3; i++) {
+            for (int what = 0; what <= 3; what++) b.item(i, what).is(due[i][what]);
+        }
+        b.count(0).is(3);
+        b.count(10).is(1);
+        b.count(11).is(1);
+        b.count(12).is(1);
         Caller.sentence("15 image, in place of what was kept there; the other IMAGE stays");
         b = new Caller().text(3);
         b.image(0).is(1);
@@ -713,10 +780,12 @@ public final class EdgeTest {
         nothing();
         things();
         columnsInOrder();
+        ofColumns();
         rooms();
         leastToMost();
         high();
         highWithRoom();
+        noneAnyMore();
         behindHead();
         twoBefore();
         oneBehind();
