@@ -67,9 +67,41 @@ public final class FaceTest {
         check(found.toString().equals("[FULL=-4, NONE=-6, OUTSIDE=-2, STATE=-3, UNKNOWN=-1]"), "constants " + found);
     }
 
+    /** Rules 5 and 11: static fields are final, few classes, and few parameters. */
+    private static void classes() {
+        List<Class<?>> all = new ArrayList<>(List.of(StepColumns.class.getDeclaredClasses()));
+        all.add(StepColumns.class);
+        check(all.size() <= 12, "at most 12 classes");
+        for (Class<?> c : all) {
+            for (Field f : c.getDeclaredFields()) {
+                boolean isStatic = Modifier.isStatic(f.getModifiers());
+                check(!isStatic || Modifier.isFinal(f.getModifiers()), f + " is final");
+                check(!isStatic || f.getType() == int.class, f + " is a plain constant");
+            }
+            for (Method m : c.getDeclaredMethods()) {
+                check(m.getParameterCount() <= 7, m + " takes at most 7 parameters");
+            }
+        }
+    }
+
+    /** Rules 11 and 12: methods are short, and objects are made in constructors and fields alone. */
+    private static void methodsOfSource(String code) {
+        Matcher m = Pattern.compile("(?m)^( +)(?:(?:public|private|static) )*(\\w+ )?(\\w+)\\([^;{}]*\\) \\{$(?s:(.*?))^\\1\\}$").matcher(code);
+        int found = 0;
+        while (m.find()) {
+            boolean isConstructor = m.group(2) == null;
+            if (isConstructor && !Character.isUpperCase(m.group(3).charAt(0))) continue;
+            found++;
+            check(m.group(4).lines().count() <= 60, m.group(3) + " is short");
+            check(isConstructor || !m.group(4).matches("(?s).*\\b(new|clone|copyOf|copyOfRange)\\b.*"), m.group(3) + " makes no object");
+        }
+        check(found >= METHODS.length, "methods are found in the source: " + found);
+    }
+
     private static void source() throws Exception {
         String text = Files.readString(Path.of("src/main/java/StepColumns.java"));
         String code = text.replaceAll("(?s)/\\*.*?\\*/", "").replaceAll("//[^\n]*", "");
+        methodsOfSource(code);
         Matcher m = Pattern.compile("\\b(throw|try|catch|synchronized|assert|package|native|\\w+Exact)\\b|->|::").matcher(code);
         while (m.find()) {
             check(false, "the source does without " + m.group());
@@ -88,6 +120,7 @@ public final class FaceTest {
             "one public constructor without arguments");
         methods();
         fields();
+        classes();
         source();
         System.out.println(wrong == 0 ? "the face is as due" : wrong + " rules do not hold");
         if (wrong != 0) System.exit(1);

@@ -1,6 +1,7 @@
 import java.util.ArrayList;
 import java.util.List;
 import java.util.Random;
+import java.util.function.ToIntFunction;
 
 /**
  * Random runs of calls, each answer held against a slow program that follows the document's
@@ -377,64 +378,93 @@ public final class ReferenceTest {
         if (got != want && wrong++ < 3) System.out.println(LOG + "  due is " + want);
     }
 
-    private static StepColumns x;
+    // ---- the object, and another one that was asked the same alterations before it has had 512 calls
+
+    private static final int MOST_CALLS = 512;
+    private static final List<ToIntFunction<StepColumns>> ALTERATIONS = new ArrayList<>();
+    private static final StringBuilder ALTERATIONS_LOG = new StringBuilder();
+    private static StepColumns object;
+    private static int calls, objects = 0;
     private static Ref ref;
+
+    /** The object for the next call; what is told after the 512th call is free. */
+    private static StepColumns x() {
+        if (calls >= MOST_CALLS) renew();
+        calls++;
+        return object;
+    }
+
+    private static void renew() {
+        object = new StepColumns();
+        objects++;
+        for (ToIntFunction<StepColumns> alteration : ALTERATIONS) alteration.applyAsInt(object);
+        calls = ALTERATIONS.size();
+        LOG.setLength(0);
+        LOG.append("a new object\n").append(ALTERATIONS_LOG);
+    }
+
+    private static void alters(String call, ToIntFunction<StepColumns> alteration, int want) {
+        int got = alteration.applyAsInt(x());
+        ALTERATIONS.add(alteration);
+        ALTERATIONS_LOG.append(call).append(" = ").append(got).append('\n');
+        due(call, got, want);
+    }
 
     private static void alter(int size, int maxLines, int maxTall, int maxRoom) {
         int c = random.nextInt(12);
         if (c < 4 && ref.items.size() < size || c == 4 && random.nextInt(4) == 0) {
             int kind = odd(0, 2), s = odd(1, kind == 0 ? maxLines : maxTall), l = odd(0, maxRoom), m = odd(Math.max(0, Math.min(l, maxRoom)), maxRoom);
-            due("add(" + kind + ", " + s + ", " + l + ", " + m + ")", x.add(kind, s, l, m), ref.add(kind, s, l, m));
+            alters("add(" + kind + ", " + s + ", " + l + ", " + m + ")", x -> x.add(kind, s, l, m), ref.add(kind, s, l, m));
         } else if (c < 7) {
             int i = odd(0, Math.max(0, ref.items.size() - 1)), w = odd(1, 3), v = odd(0, w == 1 ? maxLines : maxRoom);
-            due("change(" + i + ", " + w + ", " + v + ")", x.change(i, w, v), ref.change(i, w, v));
+            alters("change(" + i + ", " + w + ", " + v + ")", x -> x.change(i, w, v), ref.change(i, w, v));
         } else if (c < 8 || ref.items.size() > size) {
             int i = odd(0, Math.max(0, ref.items.size() - 1));
-            due("remove(" + i + ")", x.remove(i), ref.remove(i));
+            alters("remove(" + i + ")", x -> x.remove(i), ref.remove(i));
         } else if (c < 9) {
             int i = odd(0, Math.max(0, ref.items.size() - 1)), to = odd(0, Math.max(0, ref.items.size() - 1));
-            due("move(" + i + ", " + to + ")", x.move(i, to), ref.move(i, to));
+            alters("move(" + i + ", " + to + ")", x -> x.move(i, to), ref.move(i, to));
         } else if (c < 10) {
             int w = odd(0, 1), v = w == 0 ? odd(3, 20) : odd(12, random.nextBoolean() ? 80 : 200);
-            due("set(" + w + ", " + v + ")", x.set(w, v), ref.set(w, v));
+            alters("set(" + w + ", " + v + ")", x -> x.set(w, v), ref.set(w, v));
         } else {
             int k = odd(0, 1);
-            if (c == 10) due("image(" + k + ")", x.image(k), ref.image(k));
-            else due("restore(" + k + ")", x.restore(k), ref.restore(k));
+            if (c == 10) alters("image(" + k + ")", x -> x.image(k), ref.image(k));
+            else alters("restore(" + k + ")", x -> x.restore(k), ref.restore(k));
         }
     }
 
     private static void ask(boolean dear) {
-        for (int w = -1; w <= 5; w++) due("best(" + w + ")", x.best(w), ref.bestOf(w));
-        for (int w = -1; w <= 13; w++) due("count(" + w + ")", x.count(w), ref.count(w));
+        for (int w = -1; w <= 5; w++) due("best(" + w + ")", x().best(w), ref.bestOf(w));
+        for (int w = -1; w <= 13; w++) due("count(" + w + ")", x().count(w), ref.count(w));
         for (int i = -1; i <= ref.items.size(); i++) {
             for (int w = -1; w <= 4; w++) {
-                due("item(" + i + ", " + w + ")", x.item(i, w), ref.item(i, w));
+                due("item(" + i + ", " + w + ")", x().item(i, w), ref.item(i, w));
                 int lines = ref.has(i) && ref.items.get(i).kind == 0 ? ref.items.get(i).size : 1;
                 for (int k = -1; k <= lines; k++)
-                    due("place(" + i + ", " + k + ", " + w + ")", x.place(i, k, w), ref.place(i, k, w));
+                    due("place(" + i + ", " + k + ", " + w + ")", x().place(i, k, w), ref.place(i, k, w));
             }
         }
         int columns = ref.best() == null ? 0 : ref.best().columns;
         for (int c = -1; c <= columns; c++)
-            for (int w = -1; w <= 5; w++) due("column(" + c + ", " + w + ")", x.column(c, w), ref.column(c, w));
-        for (int p = -1; p <= columns / 2 + 1; p++) due("meet(" + p + ")", x.meet(p), ref.meet(p));
+            for (int w = -1; w <= 5; w++) due("column(" + c + ", " + w + ")", x().column(c, w), ref.column(c, w));
+        for (int p = -1; p <= columns / 2 + 1; p++) due("meet(" + p + ")", x().meet(p), ref.meet(p));
         int far = odd(0, 5);
-        due("meet(" + far + ")", x.meet(far), ref.meet(far));
-        due("column(" + far + ", 0)", x.column(far, 0), ref.column(far, 0));
+        due("meet(" + far + ")", x().meet(far), ref.meet(far));
+        due("column(" + far + ", 0)", x().column(far, 0), ref.column(far, 0));
         if (!dear) return;
-        for (int i = -1; i <= ref.items.size(); i++) due("relief(" + i + ")", x.relief(i), ref.relief(i));
-        due("culprit()", x.culprit(), ref.culprit());
+        for (int i = -1; i <= ref.items.size(); i++) due("relief(" + i + ")", x().relief(i), ref.relief(i));
+        due("culprit()", x().culprit(), ref.culprit());
         int n = odd(0, random.nextBoolean() ? 3 : 150);
-        due("fit(" + n + ")", x.fit(n), ref.fit(n));
-        due("fit(" + columns + ")", x.fit(columns), ref.fit(columns));
+        due("fit(" + n + ")", x().fit(n), ref.fit(n));
+        due("fit(" + columns + ")", x().fit(columns), ref.fit(columns));
     }
 
     private static void run(int size, int maxLines, int maxTall, int maxRoom, int steps) {
-        x = new StepColumns();
+        ALTERATIONS.clear();
+        ALTERATIONS_LOG.setLength(0);
+        renew();
         ref = new Ref();
-        LOG.setLength(0);
-        LOG.append("a new object\n");
         for (int s = 0; s < steps; s++) {
             alter(size, maxLines, maxTall, maxRoom);
             ask(s % 4 == 3);
@@ -448,7 +478,7 @@ public final class ReferenceTest {
         for (int i = 0; i < 60 * times && wrong == 0; i++) run(4, 6, 25, 5, 24);
         for (int i = 0; i < 20 * times && wrong == 0; i++) run(6, 12, 40, 30, 24);
         for (int i = 0; i < 4 * times && wrong == 0; i++) run(12, 12, 80, 30, 40);
-        System.out.println(Ref.listedCount + " books listed, " + Ref.searchedCount + " searched");
+        System.out.println(Ref.listedCount + " books listed, " + Ref.searchedCount + " searched, " + objects + " objects");
         System.out.println(wrong == 0 ? "all answers are as due" : wrong + " answers are not as due");
         if (wrong != 0) System.exit(1);
     }
