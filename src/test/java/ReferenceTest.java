@@ -478,6 +478,8 @@ public final class ReferenceTest {
         for (int i = 0; i < 60 * times && wrong == 0; i++) run(4, 6, 25, 5, 24);
         for (int i = 0; i < 20 * times && wrong == 0; i++) run(6, 12, 40, 30, 24);
         for (int i = 0; i < 4 * times && wrong == 0; i++) run(12, 12, 80, 30, 40);
+        // Little room among short texts: lines stay out, and several items give the same relief.
+        for (int i = 0; i < 40 * times && wrong == 0; i++) run(9, 3, 12, 2, 32);
         System.out.println(Ref.listedCount + " books listed, " + Ref.searchedCount + " searched, " + objects + " objects");
         System.out.println(wrong == 0 ? "all answers are as due" : wrong + " answers are not as due");
         if (wrong != 0) System.exit(1);
